@@ -12,6 +12,7 @@ public final class PatchedColumns {
     private static final int MOST_PLACES = 128;
     private static final int BLOCK_PLACES = 16;
     private static final int FORMS = 3;
+    private static final int FORM_OF_FOLDED = 1;
     private static final int FORM_OF_STEPS = 2;
     private static final int WIDEST = 32;
     private static final int MOST_EXCEPTIONS = 15;
@@ -728,7 +729,7 @@ public final class PatchedColumns {
         return part & 4294967295L;
     }
 
-    /** The bits of a double above 0, by steps that lose nothing: the library's own way is ruled out. */
+    /** The bits of a double above 0, by exact steps: the library's own way is ruled out. */
     private static long bitsOfDouble(double number) {
         double left = number;
         long exponent = 1023;
@@ -749,7 +750,7 @@ public final class PatchedColumns {
         int held;
 
         Places(int room) {
-            told = new long[Math.max(0, room)];
+            told = new long[room > 0 ? room : 0];
         }
 
         boolean has(int place) {
@@ -969,6 +970,7 @@ public final class PatchedColumns {
         }
 
         int firstUnlike(Places other) {
+            // A place that just one has is told otherwise by the other, so lengths need no look.
             int longer = Math.max(held, other.held);
             for (int i = 0; i < longer; i++) {
                 if (tellAt(i) != other.tellAt(i)) {
@@ -1005,17 +1007,17 @@ public final class PatchedColumns {
         void load(Places row, int from, int n) {
             begin();
             for (int i = from; i < from + n; i++) {
-                add(row, i);
+                add(row.tellAt(i));
             }
         }
 
-        void add(Places row, int place) {
-            if (!row.has(place) || places >= BLOCK_PLACES) {
+        void add(long comes) {
+            if (comes == NO_PLACE || places >= BLOCK_PLACES) {
                 return;
             }
             places++;
-            if (row.isFull(place) && values < BLOCK_PLACES) {
-                given[values] = (int) row.tellAt(place);
+            if (comes != EMPTY_PLACE && values < BLOCK_PLACES) {
+                given[values] = (int) comes;
                 values++;
             }
         }
@@ -1028,24 +1030,17 @@ public final class PatchedColumns {
             spreadBy(form, stepOf(form));
         }
 
-        /** Makes the parts by a form that suits, with the step as it is told. */
+        /** Makes the parts by a form that suits; the step is as told, and 0 but by form 2. */
         void spreadBy(int form, int toldStep) {
             Arrays.fill(lengths, 0);
             step = toldStep;
             base = form == 0 ? leastGiven() : given[0];
             partCount = form == 0 ? values : Math.max(0, values - 1);
             for (int i = 0; i < partCount; i++) {
-                parts[i] = partBy(form, i);
+                int apart = form == 0 ? given[i] - base : given[i + 1] - given[i] - step;
+                parts[i] = form == FORM_OF_FOLDED ? fold(apart) : apart;
                 lengths[WORD_BITS - Integer.numberOfLeadingZeros(parts[i])]++;
             }
-        }
-
-        private int partBy(int form, int i) {
-            if (form == 0) {
-                return given[i] - base;
-            }
-            int apart = given[i + 1] - given[i];
-            return form == FORM_OF_STEPS ? apart - step : fold(apart);
         }
 
         private int leastGiven() {
@@ -1530,7 +1525,7 @@ public final class PatchedColumns {
                 measure.begin();
                 int most = Math.min(BLOCK_PLACES, row.held - from);
                 for (int places = 1; places <= most; places++) {
-                    measure.add(row, from + places - 1);
+                    measure.add(row.tellAt(from + places - 1));
                     measure.choose();
                     cost[from * BLOCK_PLACES + places - 1] = measure.bestBits;
                 }
