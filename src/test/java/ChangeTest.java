@@ -118,6 +118,9 @@ final class ChangeTest {
             x.put(i);
         }
         x.flush(0);
+        x.remove(0, 0);
+        x.insert(0, 0, 0);
+        shows("16 places are one block", x, 0, "0 1 2 3 4 5 6 7 8 9 10 11 12 13 14 15 |");
         x.insert(0, 16, 50);
         shows("behind the last of 16", x, 0, "0 1 2 3 4 5 6 7 | 8 9 10 11 12 13 14 15 50 |");
     }
@@ -166,6 +169,8 @@ final class ChangeTest {
         Made.block(x, 0, 7);
         due.is("split", x.split(0, 0, 2), 98);
         shows("split", x, 0, "1 1 | 9 9 | 7 |");
+        PatchedColumns y = Made.with(1, 1, 3, 4, 6);
+        due.is("split in unlike ones", y.split(0, 0, 2), 49 + 49 + 2 * 3);
         due.is("split a single place", x.split(0, 2, 1), Made.NONE);
         due.is("split(0, 1, 0)", x.split(0, 1, 0), Made.NONE);
         due.is("split(0, 1, 2)", x.split(0, 1, 2), Made.NONE);
@@ -196,6 +201,9 @@ final class ChangeTest {
         }
         Made.words(x, 1 | 5 << 7, 2 << 22);
         x.open(1);
+        PatchedColumns all = Made.full();
+        due.is("shift all 128", all.shift(0, 1), all.column(0, 3));
+        due.is("the last one", all.value(0, 127), 128);
         due.is("shift by 0 tells by BEST", x.shift(1, 0), 52);
     }
 
@@ -255,6 +263,9 @@ final class ChangeTest {
         due.is("one", x.block(1, 1, 0), 1);
         due.is("copy to 129 places", x.copy(0, 0, 112, 1), Made.NONE);
         due.is("copy to 128 places", x.copy(0, 0, 111, 1), 7);
+        x = Made.ones(23);
+        x.copy(0, 0, 23, 1);
+        due.is("one block more, from far behind", x.copy(1, 20, 23, 0), 1);
         x = Made.ones(23);
         Made.block(x, 1, 1, 2, 3, 4, 5, 6, 7, 8, 9, 10, 11, 12, 13, 14, 15, 16);
         Made.block(x, 1, 1);

@@ -86,6 +86,8 @@ final class SearchTest {
         Made.block(x, 1, 0, 0, 0, 0, 1000000000, 1000004000, 1000000005, 1000003995);
         due.is("by 4", x.evenest(1), 4);
         due.is("by 1", Made.ones(1).evenest(0), 1);
+        x = Made.ones(16);
+        due.is("by 16", x.evenest(0), 16);
         for (int c : Made.NO_COLUMNS) {
             due.is("evenest(" + c + ")", x.evenest(c), Made.NONE);
         }
@@ -128,6 +130,7 @@ final class SearchTest {
         due.is("going round", x.difference(0, 6), -1);
         due.is("behind the end", x.difference(0, 7), Made.ABSENT);
         due.is("ahead of all", x.difference(0, -1), Made.ABSENT);
+        due.is("from the first of all", Made.with(4, null, 9).difference(0, 2), 5);
         due.is("the first of all", Made.with(4).difference(0, 0), Made.EMPTY);
         for (int c : Made.NO_COLUMNS) {
             due.is("difference(" + c + ", 0)", x.difference(c, 0), Made.ABSENT);
@@ -203,9 +206,18 @@ final class SearchTest {
         // Eight: 80: at 4, 6, 7. 0: at 4, 2, 1, 0.
         due.is("looks 80", x.looks(0, 80), 3);
         due.is("looks 0", x.looks(0, 0), 4);
+        // 10: at 4, 2, 1, which isn't below it, and 0. 11: at 4, 2, 1.
+        due.is("looks 10", x.looks(0, 10), 4);
+        due.is("looks 11", x.looks(0, 11), 3);
         due.is("looks in none", x.looks(1, 5), 0);
         Made.block(x, 2, null, null);
         due.is("looks in gaps", x.looks(2, 5), 0);
+        Made.block(x, 2, -40);
+        Made.block(x, 2, -20);
+        // Two with values behind the gaps, at -20 first: and then at -40, if it isn't below.
+        due.is("looks -20", x.looks(2, -20), 2);
+        due.is("looks -19", x.looks(2, -19), 1);
+        due.is("looks -50", x.looks(2, -50), 2);
         Made.block(x, 0, 1);
         due.is("looks in an unsorted one", x.looks(0, 2), -2);
         for (int c : Made.NO_COLUMNS) {
@@ -348,7 +360,10 @@ final class SearchTest {
                 due.is("ratio of " + x.column(c, 3) + " and " + places, x.ratio(c), want);
             }
         }
-        due.is("2 and more", Made.with(3).ratio(0), Double.doubleToLongBits(49 / 32.0));
+        due.is("49 of 32", Made.with(3).ratio(0), Double.doubleToLongBits(49 / 32.0));
+        Made.words(x, 15 << 7, 0);
+        x.open(2);
+        due.is("64 of 32", x.ratio(2), Double.doubleToLongBits(2.0));
         Made.words(x, 32 << 7, 0, 0);
         x.open(2);
         due.is("81 of 32", x.ratio(2), Double.doubleToLongBits(81 / 32.0));

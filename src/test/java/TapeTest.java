@@ -186,8 +186,10 @@ final class TapeTest {
                 .of(0, 4).of(1, 28).of(2, 4).of(2, 28).fill(), "22 5 39 |");
         taken("a mask", new Bits().of(2, 4).of(1, 1).of(5, 3).of(0, 2).of(0, 6).of(0, 4)
                 .of(8, 32).fill(), "_ 8 _ |");
-        taken("two blocks", new Bits().head(1, 0, 0, 0, 5).fill().head(1, 0, 0, 0, 6).fill(),
-                "5 | 6 |");
+        PatchedColumns two = taken("two blocks", new Bits().head(1, 0, 0, 0, 5).fill()
+                .head(1, 0, 0, 0, 6).fill(), "5 | 6 |");
+        due.is("bits of the first", two.block(0, 0, 5), 49);
+        due.is("bits of the second", two.block(0, 1, 5), 49);
         taken("gaps alone, of any width", new Bits().of(0, 4).of(1, 1).of(1, 1).of(0, 2).of(32, 6)
                 .of(0, 4).of(0, 32).fill(), "_ |");
         taken("going round", new Bits().head(2, 1, 32, 0, Made.MAX).of(2, 32).fill(),
