@@ -334,7 +334,7 @@ final class ChangeTest {
         x.remove(0, 0);
         due.is("16 together", x.join(0), 1);
         // 4 of width 0, and 4 whose three differences are folded into 13 bits each.
-        x = wideAndNarrow(2);
+        x = Made.wideAndNarrow(2);
         due.is("apart", x.column(0, 3), 49 + 49 + 3 * 13);
         due.is("no fewer together", x.join(0), 0);
         shows("no fewer together", x, 0, "0 0 0 0 | 1000000000 1000004000 1000000005 1000003995 |");
@@ -351,7 +351,7 @@ final class ChangeTest {
     }
 
     private static void joinGoesOn() {
-        PatchedColumns x = wideAndNarrow(2);
+        PatchedColumns x = Made.wideAndNarrow(2);
         x.split(0, 1, 1);
         // 4 and 1 are 85 together and 98 apart; then 5 and 3 are 163 together and 160 apart.
         due.is("bits", x.column(0, 3), 49 + 49 + 49 + 2 * 13);
@@ -372,19 +372,6 @@ final class ChangeTest {
         due.is("as told", x.column(0, 3), 49 + 54);
         Made.block(x, 0, 7);
         due.is("fewer than both as they are told", x.join(0), 1);
-    }
-
-    /** Blocks of 4 places, by turns all 0 and of 12 bits each above 1000000000. */
-    private static PatchedColumns wideAndNarrow(int blocks) {
-        PatchedColumns x = new PatchedColumns();
-        int[] wide = {1000000000, 1000004000, 1000000005, 1000003995};
-        for (int b = 0; b < blocks; b++) {
-            for (int i = 0; i < 4; i++) {
-                x.put(b % 2 == 0 ? 0 : wide[i]);
-            }
-            x.flush(0);
-        }
-        return x;
     }
 
     private static void recut() {
@@ -434,7 +421,7 @@ final class ChangeTest {
     }
 
     private static void recutKeepsTo24() {
-        PatchedColumns x = wideAndNarrow(24);
+        PatchedColumns x = Made.wideAndNarrow(24);
         due.is("24 blocks as they are", x.recut(0), 12 * 137);
         due.is("24 blocks", x.column(0, 0), 24);
         x.merge(1, 1, 1);

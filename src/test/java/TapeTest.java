@@ -1,6 +1,3 @@
-import java.util.ArrayList;
-import java.util.List;
-
 /** Promises 20 to 25: words taken to a tape and back, and what is refused there. */
 final class TapeTest {
     private static final Due due = new Due();
@@ -23,41 +20,6 @@ final class TapeTest {
         tooMany();
         theFirstFault();
         due.end("TapeTest");
-    }
-
-    /** Numbers written one behind the other, each with its lowest bit first. */
-    private static final class Bits {
-        private final List<Integer> words = new ArrayList<>();
-        private int at;
-
-        Bits of(long number, int bits) {
-            for (int i = 0; i < bits; i++) {
-                if (at % 32 == 0) {
-                    words.add(0);
-                }
-                int last = words.size() - 1;
-                words.set(last, words.get(last) | (int) (number >> i & 1) << at % 32);
-                at++;
-            }
-            return this;
-        }
-
-        /** Places without a mask, form, width, how many exceptions, base. */
-        Bits head(int places, int form, int width, int exceptions, int base) {
-            return of(places - 1, 4).of(0, 1).of(form, 2).of(width, 6).of(exceptions, 4).of(base, 32);
-        }
-
-        Bits fill() {
-            return of(0, (32 - at % 32) % 32);
-        }
-
-        PatchedColumns onTape() {
-            PatchedColumns x = new PatchedColumns();
-            for (int word : words) {
-                x.word(word);
-            }
-            return x;
-        }
     }
 
     private static void refused(String what, Bits bits, int fault, int bit) {
@@ -134,7 +96,7 @@ final class TapeTest {
         bits.of(2, 4).of(1, 1).of(2, 3).of(1, 2).of(3, 6).of(0, 4).of(1, 32).of(6, 3).fill();
         bits.head(1, 0, 0, 0, -1).fill();
         for (int i = 0; i < 4; i++) {
-            due.is("word " + i, x.tape(i), bits.words.get(i));
+            due.is("word " + i, x.tape(i), bits.word(i));
         }
         due.is("no step", x.about(1), 2);
         x = new PatchedColumns();
@@ -154,10 +116,10 @@ final class TapeTest {
             bits.of(part, 8);
         }
         bits.of(8, 4).of(parts[8] >> 8, 24).of(9, 4).of(parts[9] >> 8, 24).fill();
-        due.is("words", x.save(0), bits.words.size());
-        for (int i = 0; i < bits.words.size(); i++) {
-            due.is("patched word " + i, x.tape(i), bits.words.get(i));
-            due.is("bits " + i, x.bits(0, 0, i), bits.words.get(i));
+        due.is("words", x.save(0), bits.size());
+        for (int i = 0; i < bits.size(); i++) {
+            due.is("patched word " + i, x.tape(i), bits.word(i));
+            due.is("bits " + i, x.bits(0, 0, i), bits.word(i));
         }
         x = Made.full();
         due.is("save all", x.save(0), x.column(0, 4));
@@ -227,8 +189,8 @@ final class TapeTest {
         due.is("part 1", x.part(0, 0, 1), 4294967294L);
         due.is("bits", x.block(0, 0, 5), 81 + 64);
         x.save(0);
-        for (int i = 0; i < bits.words.size(); i++) {
-            due.is("word " + i + " again", x.tape(i), bits.words.get(i));
+        for (int i = 0; i < bits.size(); i++) {
+            due.is("word " + i + " again", x.tape(i), bits.word(i));
         }
         due.is("set as it is", x.set(0, 0, 10), 49 + 8);
         due.is("no step any more", x.base(0, 0, 1), 0);
