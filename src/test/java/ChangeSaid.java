@@ -239,10 +239,18 @@ final class ChangeSaid {
             new Twins(due, Made::full).answers(NONE, "insert the 129th", x -> x.insert(0, 5, 1));
             PatchedColumns y = Made.full();
             y.remove(0, 0);
-            due.yes("the 128th", y.insert(0, 0, 0) > 0);
+            for (int place : new int[] {0, 64, 126, 127}) {
+                due.yes("the 128th, at " + place, y.insert(0, place, 0) > 0);
+                due.is("there it is", y.value(0, place), 0);
+                y.undo();
+            }
             y = ofSixteenBehindOnes();
             due.is("blocks", y.column(0, 0), 24);
             due.yes("24 blocks, one of them of one place", y.insert(0, 22, 5) > 0);
+            y.undo();
+            y.drop(0, 0);
+            due.yes("23 blocks, one of 16", y.insert(0, 22, 5) > 0);
+            due.is("24 blocks then", y.column(0, 0), 24);
             new Twins(due, ChangeSaid::ofSixteenBehindOnes)
                     .answers(NONE, "24 blocks, one of 16", x -> x.insert(0, 23, 5))
                     .answers(NONE, "24 blocks, behind one of 16", x -> x.insert(0, 39, 5));
@@ -322,6 +330,11 @@ final class ChangeSaid {
             shows(due, "by 5", x, 0, "6 _ 3 | 9 |");
             x.shift(0, -10);
             shows(due, "by -10", x, 0, "-4 _ -7 | -1 |");
+            x = Made.full();
+            x.shift(0, 1000);
+            for (int i = 0; i < 128; i++) {
+                due.is("each of 128", x.value(0, i), 1000 + i);
+            }
         }).that("(going round), each BLOCK by BEST.", due -> {
             PatchedColumns x = Made.with(MAX, MIN, 0);
             x.shift(0, 1);
@@ -426,6 +439,7 @@ final class ChangeSaid {
             new Twins(due, ChangeSaid::hundredMore).answers(NONE, "to 129", y -> y.copy(0, 0, 29, 1));
             x = onesAndMore();
             due.is("to 24 blocks", x.copy(1, 0, 16, 0), 1);
+            due.is("to 24 blocks, from far behind", onesAndMore().copy(1, 16, 17, 0), 1);
             new Twins(due, ChangeSaid::onesAndMore).answers(NONE, "to 25", y -> y.copy(1, 0, 17, 0));
         });
     }

@@ -224,6 +224,15 @@ final class FormSaid {
             due.is("open", x.open(0), 2);
             parts(due, x, 0, 4294967295L);
             due.is("the value by the greatest", x.value(0, 1), MAX);
+            x = new Bits().head(3, 1, 32, 0, 0).parts(32, 4294967295L, 4294967294L).fill().onTape();
+            due.is("open by form 1", x.open(0), 3);
+            parts(due, x, 4294967295L, 4294967294L);
+            due.is("the least difference", x.value(0, 1), MIN);
+            due.is("the greatest difference", x.value(0, 2), -1);
+            x = new Bits().head(2, 2, 32, 0, 0).of(5, 32).of(4294967295L, 32).fill().onTape();
+            due.is("open by form 2", x.open(0), 2);
+            parts(due, x, 4294967295L);
+            due.is("the step and the greatest go round", x.value(0, 1), 4);
             x = pending(0, MIN, -1);
             due.is("0 by form 2", x.narrow(2, 0), 1);
             due.is("the greatest by form 2", x.narrow(2, 32), 1);

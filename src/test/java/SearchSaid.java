@@ -174,6 +174,8 @@ final class SearchSaid {
             PatchedColumns x = Made.ones(24);
             due.is("24, the least", x.looks(0, -5), 5);
             due.is("24, the greatest", x.looks(0, 99), 4);
+            // At 12, 6, 3, 1, and at 0, which is below 1.
+            due.is("24, the second", x.looks(0, 1), 5);
             due.is("none", x.looks(1, 99), 0);
         }).that("as long as low is below high the one in the middle (their sum by 2, downward):", due -> {
             looked(due, 2, false, 21, 1);
@@ -328,10 +330,12 @@ final class SearchSaid {
             due.is("1", x.cuts(0, 1), 16);
             due.is("2", x.cuts(0, 2), 16);
             due.is("it stays as it is", x.block(0, 0, 0), 16);
+            due.is("the 24th", Made.wideAndNarrow(24).cuts(0, 23), 4);
         }).that("(i NONE: how many BLOCKS).", due -> {
             due.is("34", Made.alike(34, 3).cuts(0, NONE), 3);
             due.is("1", Made.with(1).cuts(0, NONE), 1);
             due.is("128", Made.full().cuts(0, NONE), 8);
+            due.is("24 blocks", Made.wideAndNarrow(24).cuts(0, NONE), 24);
         }).that("NONE: there is none such,", due ->
             new Twins(due, () -> Made.alike(34, 3))
                     .answersEach(NONE, "cuts", new int[] {MIN, -3, -2, 3, 4, 23, 24, 25, MAX}, (x, i) -> x.cuts(0, i))
@@ -543,6 +547,8 @@ final class SearchSaid {
             due.is("5 .. 3", x.count(0, 5, 3), 0);
             due.is("MAX", x.count(0, MAX, MAX), 1);
             due.is("MIN", x.count(0, MIN, MIN), 1);
+            due.is("the first place", Made.with(5, 6).count(0, 5, 5), 1);
+            due.is("all of 128", Made.full().count(0, 0, 127), 128);
             due.is("without blocks", x.count(1, MIN, MAX), 0);
         }).that("NONE for others.", due ->
             new Twins(due, Made::mixed)
@@ -573,12 +579,15 @@ final class SearchSaid {
                 due.is("ranked(0, " + k + ")", x.ranked(0, k), want[k]);
             }
             due.is("the last of 128", Made.full().ranked(0, 127), 127);
-        }).that("-4294967296: there is none such.", due ->
+            due.is("the first of 128", Made.full().ranked(0, 0), 0);
+        }).that("-4294967296: there is none such.", due -> {
             new Twins(due, Made::mixed)
                     .answersEach(Made.ABSENT, "ranked(0, k)", Made.outside(0, 3), (x, k) -> x.ranked(0, k))
                     .answersEach(Made.ABSENT, "ranked(c, 0)", Made.NO_COLUMNS, (x, c) -> x.ranked(c, 0))
                     .answers(Made.ABSENT, "ranked(2, 0)", x -> x.ranked(2, 0))
-        );
+                    .answers(Made.ABSENT, "gaps don't count", x -> x.ranked(1, 2));
+            due.is("the 129th", Made.full().ranked(0, 128), Made.ABSENT);
+        });
         said.promise(59).that("How many unlike VALUES a COLUMN has.", due -> {
             PatchedColumns x = Made.with(5, null, -3, 5);
             Made.block(x, 0, -3, MAX, MIN, null);

@@ -74,6 +74,15 @@ final class StepsSaid {
             }
             due.is("no 21st", x.undo(), NONE);
             due.is("as ahead of the latest 20", x.value(0, 0), 5);
+            for (int i = 6; i <= 100; i++) {
+                x.set(0, 0, i);
+                due.is("steps", x.about(1), Math.min(20, i - 5));
+            }
+            for (int i = 99; i >= 80; i--) {
+                x.undo();
+                due.is("as ahead of the latest of 100", x.value(0, 0), i);
+            }
+            due.is("no 21st", x.undo(), NONE);
             x = Made.with(0);
             for (int i = 1; i < 20; i++) {
                 x.set(0, 0, i);
@@ -160,18 +169,26 @@ final class StepsSaid {
 
     private static void image(Sentences said) {
         said.in(Sentences.SECOND).that("AN IMAGE: all as it is,", due -> {
+            everyStep().forEach((name, step) -> {
+                PatchedColumns z = Made.mixed();
+                z.image();
+                step.applyAsLong(z);
+                z.forget();
+                z.tell(5);
+                z.back();
+                due.same("back from " + name, withoutTape(z), withoutTape(Made.mixed()));
+            });
             PatchedColumns x = Made.mixed();
             x.image();
-            String before = withoutTape(x);
-            everyStep().forEach((name, step) -> {
-                step.applyAsLong(x);
-                x.forget();
-                x.tell(5);
-                x.back();
-                due.same("back from " + name, withoutTape(x), before);
-            });
-            x.undo();
-            x.undo();
+            // Other steps come in place of those that the image has.
+            for (int i = 0; i < 3; i++) {
+                x.undo();
+            }
+            x.forget();
+            x.tell(3);
+            for (int i = 0; i < 3; i++) {
+                x.walk(i, 5, 5, 20);
+            }
             x.back();
             due.is("its steps, too", x.about(1), 3);
             PatchedColumns y = Made.mixed();

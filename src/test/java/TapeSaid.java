@@ -108,7 +108,31 @@ final class TapeSaid {
             due.is("words", x.save(0), 4);
             due.is("open again", x.open(1), 3);
             due.same("again", Twins.words(x, 1), Twins.words(x, 0));
+            x = taken(due, "form 1", new Bits().head(3, 1, 9, 0, 10).parts(9, 4, 1).fill(), "10 12 11 |");
+            due.is("form", x.block(0, 0, 2), 1);
+            due.is("no step", x.base(0, 0, 1), 0);
+            due.is("part 0", x.part(0, 0, 0), 4);
+            due.is("part 1", x.part(0, 0, 1), 1);
+            x = taken(due, "form 0", new Bits().head(2, 0, 9, 0, 10).parts(9, 4, 0).fill(), "14 10 |");
+            due.is("no step", x.base(0, 0, 1), 0);
+            sixteenByFormZero(due);
         });
+    }
+
+    private static void sixteenByFormZero(Due due) {
+        Bits bits = new Bits().head(16, 0, 5, 1, -3);
+        StringBuilder want = new StringBuilder();
+        for (int i = 0; i < 16; i++) {
+            bits.of(i, 5);
+            want.append(i == 15 ? 15 + 32 - 3 : i - 3).append(' ');
+        }
+        PatchedColumns x = taken(due, "16 by form 0", bits.of(15, 4).of(1, 27).fill(), want.append('|').toString());
+        due.is("the last part", x.part(0, 0, 15), 15 + 32);
+        due.yes("it is patched", x.patched(0, 15));
+        due.is("words again", x.save(0), bits.size());
+        for (int i = 0; i < bits.size(); i++) {
+            due.is("word " + i, x.tape(i), bits.word(i));
+        }
     }
 
     private static void theFirst(Sentences said) {
