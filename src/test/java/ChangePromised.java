@@ -303,6 +303,8 @@ final class ChangePromised {
             x = Made.wasted();
             due.yes("swap", x.swap(0, 2));
             due.is("as they are told", x.column(2, 5), 11);
+            due.yes("swap back, the other way", x.swap(0, 2));
+            due.is("as they are told yet", x.column(0, 5), 11);
         }).that("False for others.", due ->
             new Twins(due, Made::mixed)
                     .answersEach(0, "swap(c, 0)", Made.NO_COLUMNS, (x, c) -> x.swap(c, 0) ? 1 : 0)

@@ -128,6 +128,28 @@ final class ChangeSaid {
             due.is("bits as they are told", x.column(0, 3), 103 + 49);
             due.is("fewer than both have", x.join(0), 1);
             byBest(due, x, 0);
+            // 49 and 88 apart by BEST, 49 + 7 * 13 + 23 together: fewer only than the 177 they are told in.
+            x = new Bits().head(4, 0, 32, 0, 0).parts(32, 0, 0, 0, 0).fill().onTape();
+            x.open(0);
+            Made.block(x, 0, Made.WIDE[0], Made.WIDE[1], Made.WIDE[2], Made.WIDE[3]);
+            due.is("bits, wide as they are told", x.column(0, 3), 177 + 88);
+            due.is("bits by BEST", x.column(0, 3) - x.column(0, 5), 49 + 88);
+            due.is("fewer than both have, more than by BEST", x.join(0), 1);
+            due.is("bits together", x.column(0, 3), 49 + 7 * 13 + 23);
+            x = Made.with(Made.WIDE[0], Made.WIDE[1], Made.WIDE[2], Made.WIDE[3]);
+            x.save(0);
+            new Bits().head(4, 0, 32, 0, 0).parts(32, 0, 0, 0, 0).fill().onto(x);
+            x.open(0);
+            due.is("bits, the next one wide as it is told", x.column(0, 3), 88 + 177);
+            due.is("fewer than both have, the next one wide", x.join(0), 1);
+            // 49 and 49 + 3 * 12 apart, 49 + 5 * 12 + 24 together: a bit fewer, in as many words.
+            x = Made.with(0, 0);
+            Made.block(x, 0, 1000000000, 1000002000, 1000000005, 1000001995);
+            due.is("bits apart", x.column(0, 3), 134);
+            due.is("words apart", x.column(0, 4), 5);
+            due.is("a bit fewer", x.join(0), 1);
+            due.is("bits then", x.column(0, 3), 133);
+            due.is("words then", x.column(0, 4), 5);
         }).that("they are that one, which is looked at with the next one then;", due -> {
             PatchedColumns x = Made.ones(4);
             due.is("four are one", x.join(0), 3);
@@ -319,6 +341,9 @@ final class ChangeSaid {
             due.is("bits as told", x.column(0, 3), 49 + 27);
             due.is("split", x.split(0, 0, 1), 49 + 50);
             byBest(due, x, 0);
+            x = Made.wasted();
+            due.is("split one of two", x.split(0, 0, 1), 49 + 49);
+            due.is("the other block stays as it is told", x.column(0, 5), 4);
         });
     }
 
@@ -511,6 +536,9 @@ final class ChangeSaid {
             }
             byBest(due, x, 0);
             due.is("32", x.walk(1, 0, 50, 32), 2);
+            x = Made.wasted();
+            x.walk(0, 0, 50, 5);
+            due.is("what was there stays as it is told", x.column(0, 5), 11);
         }).that("(PENDING stays as it is).", due -> {
             PatchedColumns x = new PatchedColumns();
             x.put(4);

@@ -336,6 +336,10 @@ final class SearchSaid {
             due.is("1", Made.with(1).cuts(0, NONE), 1);
             due.is("128", Made.full().cuts(0, NONE), 8);
             due.is("24 blocks", Made.wideAndNarrow(24).cuts(0, NONE), 24);
+            due.is("24 of one place", Made.ones(24).cuts(0, NONE), 2);
+            PatchedColumns x = Made.with(0, 0, 0, 0, 0, Made.WIDE[0], Made.WIDE[1], Made.WIDE[2], Made.WIDE[3]);
+            due.is("more than it has", x.cuts(0, NONE), 2);
+            due.is("it stays as it is", x.column(0, 0), 1);
         }).that("NONE: there is none such,", due ->
             new Twins(due, () -> Made.alike(34, 3))
                     .answersEach(NONE, "cuts", new int[] {MIN, -3, -2, 3, 4, 23, 24, 25, MAX}, (x, i) -> x.cuts(0, i))
@@ -346,6 +350,22 @@ final class SearchSaid {
                     .answers(NONE, "cuts(2, 0)", x -> x.cuts(2, 0))
                     .answers(NONE, "cuts(2, -1)", x -> x.cuts(2, -1))
         );
+    }
+
+    /** 125 places, by turns 5 alike, the first of them empty, and 5 that are far apart. */
+    private static PatchedColumns alikeAndFarApart() {
+        PatchedColumns x = new PatchedColumns();
+        for (int i = 0; i < 125; i++) {
+            if (i % 10 == 0) {
+                x.gap();
+            } else {
+                x.put(i % 10 < 5 ? i / 10 : i * i * 1640531527);
+            }
+            if (i % 16 == 15 || i == 124) {
+                x.flush(0);
+            }
+        }
+        return x;
     }
 
     private static void evenPromises(Sentences said) {
@@ -375,6 +395,10 @@ final class SearchSaid {
             due.is("4", x.evenest(0), 4);
             due.is("1", Made.with(5).evenest(0), 1);
             due.is("16", Made.full().evenest(0), 16);
+            x = alikeAndFarApart();
+            // 25 blocks are more than a column has: nothing becomes of them.
+            due.is("125 by 5", x.evenly(0, 5), 13 * (49 + 5) + 12 * (49 + 4 * 32));
+            due.is("5", x.evenest(0), 5);
         }).that("of like ones the least.", due -> {
             due.is("5 alike", Made.alike(5, 3).evenest(0), 5);
             due.is("17 alike", Made.alike(17, 3).evenest(0), 9);
@@ -396,6 +420,15 @@ final class SearchSaid {
             due.is("and 49", x.heaviest(0), 3);
             due.is("one alone", Made.with(3, 3).heaviest(0), 0);
             due.is("as they are told", Made.wasted().heaviest(0), 0);
+            x = Made.with(1, 2);
+            Made.block(x, 0, null, null, 1);
+            due.is("empty places count: 25.5, 17.3", x.heaviest(0), 0);
+            x = Made.with(null, null);
+            Made.block(x, 0, 3, 3);
+            due.is("places without values: 25.5, 24.5", x.heaviest(0), 0);
+            x = Made.with(3, 3);
+            Made.block(x, 0, null, null);
+            due.is("24.5, and 25.5 without values", x.heaviest(0), 1);
         }).that("(BITS divided by PLACES, exactly),", due -> {
             // 65 by 4 is 16.25, 49 by 3 is 16.33.
             PatchedColumns x = new Bits().head(4, 0, 4, 0, 7).of(0, 16).fill().onTape();
@@ -676,6 +709,8 @@ final class SearchSaid {
             due.is("55 of 96", Made.with(5, 7, 6).ratio(0), Double.doubleToLongBits(55.0 / 96.0));
             due.is("784 of 4096", Made.alike(128, 3).ratio(0), Double.doubleToLongBits(8 * 49 / 4096.0));
             due.is("114 of 128", Made.wasted().ratio(0), Double.doubleToLongBits(114.0 / 128.0));
+            due.is("52 of 96, empty ones too", Made.with(null, 5, null).ratio(0), Double.doubleToLongBits(52.0 / 96.0));
+            due.is("51 of 64, no value", Made.with(null, null).ratio(0), Double.doubleToLongBits(51.0 / 64.0));
             for (int width = 0; width <= 32; width++) {
                 PatchedColumns x = new Bits().head(1, 0, width, 0, 5).of(0, width).fill().onTape();
                 x.open(0);
