@@ -105,6 +105,14 @@ final class ChangePromised {
         return x;
     }
 
+    private static PatchedColumns sixteenBehind(int places) {
+        PatchedColumns x = Made.alike(places, 3);
+        for (int i = 0; i < 16; i++) {
+            x.put(4);
+        }
+        return x;
+    }
+
     private static void flush(Sentences said) {
         said.promise(5).that("FLUSHED: BITS of the BLOCK.", due -> {
             PatchedColumns x = Made.with(1, 2);
@@ -129,6 +137,8 @@ final class ChangePromised {
             x = Made.ones(23);
             x.put(1);
             due.is("room for just one block", x.flush(0), 49);
+            new Twins(due, () -> sixteenBehind(113)).answers(NONE, "113 and 16", y -> y.flush(0));
+            due.is("112 and 16", sixteenBehind(112).flush(0), 49);
         });
     }
 
@@ -305,6 +315,9 @@ final class ChangePromised {
             due.is("as they are told", x.column(2, 5), 11);
             due.yes("swap back, the other way", x.swap(0, 2));
             due.is("as they are told yet", x.column(0, 5), 11);
+            x = new PatchedColumns();
+            due.yes("swap two without blocks", x.swap(1, 2));
+            due.is("a step", x.about(1), 1);
         }).that("False for others.", due ->
             new Twins(due, Made::mixed)
                     .answersEach(0, "swap(c, 0)", Made.NO_COLUMNS, (x, c) -> x.swap(c, 0) ? 1 : 0)

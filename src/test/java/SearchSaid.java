@@ -208,6 +208,12 @@ final class SearchSaid {
             Made.block(x, 0, new Integer[] {null});
             due.is("by all", x.skipped(0, MIN, MAX), 2);
             due.is("by 0", x.skipped(0, 0, 0), 2);
+            due.is("low above high", x.skipped(0, 1, 0), 2);
+            due.is("low far above high", x.skipped(0, MAX, MIN), 2);
+            x = new Bits().masked(2, 3, 0, 5, 0, 0).fill().onTape();
+            x.open(0);
+            due.is("told by a width", x.skipped(0, 0, 0), 1);
+            due.is("told by a width, low above high", x.skipped(0, 1, 0), 1);
         }).that("and BLOCKS of FORM 0 without EXCEPTIONS whose BASE is above high,", due -> {
             PatchedColumns x = Made.with(5, 7, 6);
             due.is("form", x.block(0, 0, 2), 0);

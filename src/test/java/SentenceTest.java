@@ -9,6 +9,7 @@ final class SentenceTest {
         ChangeSaid.tell(said);
         ChangePromised.tell(said);
         TapeSaid.tell(said);
+        BesideSaid.tell(said);
         StepsSaid.tell(said);
         AskSaid.tell(said);
         SearchSaid.tell(said);

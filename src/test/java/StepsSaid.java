@@ -259,9 +259,20 @@ final class StepsSaid {
             x.undo();
             x.back();
             due.is("once more", x.about(1), 2);
+            due.same("once more", Made.shown(x, 0), "5 7 6 |");
+            x = Made.mixed();
+            x.set(0, 0, 50);
+            x.set(0, 0, 51);
+            x.undo();
+            x.back();
+            due.same("what is taken back is none of it", Made.shown(x, 0), "5 7 6 |");
         }).that("PLACES of all COLUMNS.", due -> {
             due.is("of a new one", Made.full().back(), 0);
             due.is("of the image", Made.mixed().back(), 6);
+            PatchedColumns x = Made.mixed();
+            x.image();
+            x.drop(0, 0);
+            due.is("none that is pending", x.back(), 8);
         });
     }
 
